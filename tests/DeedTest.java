@@ -112,6 +112,11 @@ public final class DeedTest {
         Due.is("d by 4, cut", x.loud(0, 1020), 10);
         Due.is("0 at least", x.loud(0, 999), 0);
         Due.is("never HEARD", x.loud(0, 2500), 0);
+        x.mend(0, 1, 1);
+        x.mend(0, 0, 0);
+        x.mend(0, 3, 0);
+        Due.is("at hour 0 of another TOWN", x.loud(0, 1000), 0);
+        Due.is("at hour 0 of its own", x.loud(0, 0), 12);
         Due.is("deed 1", x.loud(1, 0), -1);
         Due.is("deed -1", x.loud(-1, 0), -1);
         Due.is("town 3", x.loud(0, 3000), -1);
@@ -132,6 +137,9 @@ public final class DeedTest {
         Due.is("another one", x.said(2, 120), 34);
         Due.is("a MARK that is not said", x.said(11, 120), 0);
         Due.is("a TOWN that never hears", x.said(12, 1120), 0);
+        x.mend(0, 3, 0);
+        Due.is("hour 0 of a TOWN that never hears", x.said(12, 1000), 0);
+        Due.is("hour 0", x.said(12, 0), 20);
         Due.is("said(15, 0)", x.said(15, 0), -1);
         Due.is("said(40, 0)", x.said(40, 0), -1);
         Due.is("said(-1, 0)", x.said(-1, 0), -1);

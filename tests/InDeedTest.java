@@ -192,19 +192,41 @@ public final class InDeedTest {
     }
 
     private static void fortyAreKept() {
-        FameAhead x = Due.land(1, 0);
-        for (int i = 1; i <= 45; i++) {
-            Due.is("mend", x.mend(0, 7, i), i == 1 ? 60 : i - 1);
-            Due.is("count(4)", x.count(4), Math.min(i, 40));
+        FameAhead x = Due.land(8, 0);
+        for (int i = 0; i < 45; i++) {
+            Due.is("mend", x.mend(numberOf(i), whatOf(i), valueOf(i)), before(i));
+            Due.is("count(4)", x.count(4), Math.min(i + 1, 40));
         }
-        for (int i = 39; i >= 0; i--) {
-            Due.is("undo", x.undo(), i);
+        for (int i = 44; i >= 5; i--) {
+            Due.is("undo", x.undo(), i - 5);
+            Due.is("of what was UNDONE", x.of(numberOf(i), whatOf(i)), before(i));
         }
-        Due.is("the oldest stays", x.of(0, 7), 5);
         Due.is("none more", x.undo(), -5);
-        for (int i = 39; i >= 0; i--) {
-            Due.is("redo", x.redo(), i);
+        for (int i = 0; i < 5; i++) {
+            Due.is("the oldest stay", x.of(numberOf(i), whatOf(i)), valueOf(i));
         }
-        Due.is("all again", x.of(0, 7), 45);
+        for (int i = 5; i < 45; i++) {
+            Due.is("redo", x.redo(), 44 - i);
+            Due.is("of what was DONE AGAIN", x.of(numberOf(i), whatOf(i)), valueOf(i));
+        }
+        Due.is("none more", x.redo(), -5);
+    }
+
+    /** DEAF of the eight TOWNS, then WORTH of the five MARKS, and so on. */
+    private static int numberOf(int i) {
+        return i % 13 < 8 ? i % 13 : i % 13 - 8;
+    }
+
+    private static int whatOf(int i) {
+        return i % 13 < 8 ? 0 : 6;
+    }
+
+    private static int valueOf(int i) {
+        return 3 + i / 13 + i % 3;
+    }
+
+    private static int before(int i) {
+        int[] worth = {1, -2, 1, 1, -1};
+        return i >= 13 ? valueOf(i - 13) : i < 8 ? 0 : worth[i - 8];
     }
 }

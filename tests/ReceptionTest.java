@@ -25,6 +25,7 @@ public final class ReceptionTest {
         Due.is("RECEIVED", x.received(0, 0, 0), -2 * 36 + 16);
         Due.is("RECEIVED later in another TOWN", x.received(0, 1004, 0), -2 * 35 + 15);
         Due.is("not HEARD there yet", x.received(0, 1003, 0), 0);
+        Due.is("hour 0 there", x.received(0, 1000, 0), 0);
         Due.is("another one", x.received(1, 0, 0), -36);
         Due.is("not ARRESTED", x.received(0, 0, 1), 0);
         x.mend(0, 7, 36);
@@ -172,6 +173,7 @@ public final class ReceptionTest {
         x.mend(0, 7, 50);
         Due.is("ARRESTED there", x.route(0, 50, -1), 180);
         Due.is("round it", x.route(0, 50, 0), 2);
+        Due.is("from the farthest TOWN at hour 0", x.route(0, 2000, 0), 0);
         Due.is("home", x.route(0, 50, 1), 0);
         Due.is("from where one would be ARRESTED", x.route(0, 1050, 0), 2);
     }

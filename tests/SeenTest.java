@@ -19,6 +19,8 @@ public final class SeenTest {
         Due.is("nothing there", x.judge(0, 0, 0), -11);
         Due.lay(x, 0, 0, 8, 0, 0, 36, 0, 77, 99);
         Due.is("so, five at most count", x.judge(0, 0, 0), -2);
+        x.town(0);
+        Due.is("not in a TOWN that has not HEARD", x.judge(0, 0, 1000), 0);
         Due.is("of another one", x.judge(0, 1, 0), 0);
         x.put(0, 4, 1);
         Due.is("the fifth isn't", x.judge(0, 0, 0), 4);
@@ -35,7 +37,7 @@ public final class SeenTest {
         x.body(0);
         x.keep(0, 0);
         Due.is("a WORD", x.judge(0, 0, 0), -12);
-        int[][] wrong = {{-1, 0, 0}, {6, 0, 0}, {1, 4, 0}, {1, -1, 0}, {1, 0, 1000}, {1, 0, -1}};
+        int[][] wrong = {{-1, 0, 0}, {6, 0, 0}, {1, 4, 0}, {1, -1, 0}, {1, 0, 2000}, {1, 0, -1}};
         for (int[] call : wrong) {
             Due.is("judge", x.judge(call[0], call[1], call[2]), -1);
         }
@@ -52,6 +54,8 @@ public final class SeenTest {
         Due.is("sets", x.which(0, 0, 0, 0), 3 * 2 * 2);
         Due.is("the least", x.which(0, 0, 0, 1), 4);
         Due.is("in none of all", x.which(0, 0, 0, 2), 0);
+        x.town(0);
+        Due.is("not in a TOWN that has not HEARD", x.which(0, 0, 1000, 0), 0);
         Due.lay(x, 0, 0, 8, 0, 0, 0, 4);
         Due.is("one set", x.which(0, 0, 0, 0), 1);
         Due.is("that", x.which(0, 0, 0, 1), 2 + 16);
@@ -112,6 +116,11 @@ public final class SeenTest {
         Due.is("at 999", x.first(2, 20, 1), 999);
         x.mend(0, 3, 0);
         Due.is("at 0", x.first(2, 20, 0), 0);
+        Due.tell(x, "w*!a");
+        x.mend(1, 5, 6);
+        Due.is("first at 999 alone", x.first(2, 6, 0), 999);
+        x.mend(0, 5, 7);
+        Due.is("the last at 0 alone", x.first(2, 7, 1), 0);
         int[][] wrong = {{5, 1, 0}, {40, 1, 0}, {-1, 1, 0}, {0, 301, 0}, {0, -1, 0}, {0, 100, 0}, {0, 1, 2}, {0, 1, -1}};
         for (int[] call : wrong) {
             Due.is("first", x.first(call[0], call[1], call[2]), -1);

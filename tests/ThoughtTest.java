@@ -27,10 +27,13 @@ public final class ThoughtTest {
         Due.is("the same TOWN", x.needs(0, 5, 5, 36), 9);
         Due.is("not HEARD yet", x.needs(0, 0, 1003, 1), -2);
         Due.is("never HEARD", x.needs(0, 0, 2999, 1), -2);
+        Due.is("at hour 0 of another TOWN", x.needs(0, 0, 1000, 1), -2);
+        Due.is("both at hour 0 of a TOWN", x.needs(0, 1000, 1000, 36), 9);
         x.deed(0, 0, 9);
         Due.is("SAID already", x.needs(0, 900, 1010, 35), 1);
         Due.is("another MARK isn't", x.needs(1, 900, 1010, 35), -2);
         Due.is("another one isn't", x.needs(10, 900, 1010, 35), -2);
+        Due.is("SAID at hour 0 in its own TOWN alone", x.needs(0, 900, 1000, 1), -2);
         Due.is("it is in thought", x.count(2), 1);
         int[][] wrong = {{5, 0, 0, 1}, {40, 0, 0, 1}, {-1, 0, 0, 1}, {0, 3000, 0, 1}, {0, -1, 0, 1}, {0, 0, 3000, 1},
             {0, 0, -1, 1}, {0, 0, 0, 0}, {0, 0, 0, 100}};
@@ -60,11 +63,15 @@ public final class ThoughtTest {
         Due.is("never LOUD enough", x.latest(0, 0, 1020, 104), -2);
         Due.is("never HEARD", x.latest(0, 0, 2999, 901), -2);
         Due.is("too early an hour", x.latest(0, 0, 1003, 901), -2);
+        Due.is("hour 0", x.latest(0, 0, 1000, 901), -2);
+        Due.is("hour 0 of the same TOWN", x.latest(0, 1, 1000, 901), 0);
         Due.is("just enough", x.latest(0, 0, 1004, 901), 0);
         Due.tell(x, "a>9?50;5");
         Due.is("told long enough", x.latest(0, 0, 1020, 150), 6);
         x.deed(0, 10, 1);
         Due.is("SAID already", x.latest(0, 0, 1020, 105), 999);
+        x.mend(0, 3, 0);
+        Due.is("SAID at hour 0 in its own TOWN alone", x.latest(0, 0, 1000, 101), -2);
         int[][] wrong = {{5, 0, 0, 101}, {-1, 0, 0, 101}, {0, 3, 0, 101}, {0, -1, 0, 101}, {0, 0, 3000, 101},
             {0, 0, -1, 101}, {0, 0, 0, 1}, {0, 0, 0, 100}, {0, 0, 0, 1001}, {0, 0, 0, -101}, {0, 0, 0, 900}};
         for (int[] call : wrong) {
@@ -144,6 +151,8 @@ public final class ThoughtTest {
         Due.is("all but one", x.alike(1, 0, 0), 4);
         Due.is("both ways", x.alike(10, 0, 0), 4);
         Due.is("not HEARD yet there", x.alike(1, 1003, 0), 5);
+        Due.is("hour 0 there", x.alike(1, 1000, 0), 5);
+        Due.is("MIXED at hour 0 there", x.alike(1, 1000, 2), 0);
         Due.is("TOWNS", x.alike(1, 0, 1), 1);
         Due.is("TOWNS later", x.alike(1, 2004, 1), 3);
         Due.is("TOWNS of others", x.alike(32, 0, 1), 2);
