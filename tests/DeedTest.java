@@ -35,11 +35,16 @@ public final class DeedTest {
         Due.lay(x, 0, 1, 7, 1, 0, 20, 3, 4, 3, 1, 999, 0, 9, 0, 0, 0, 4, 1);
         Due.is("shelf -1", x.deeds(-1, 0, 1), -1);
         Due.is("shelf 6", x.deeds(6, 0, 1), -1);
-        Due.is("place -1", x.deeds(0, -1, 1), -1);
+        Due.is("place -1", x.deeds(0, -1, 1), 0);
+        Due.is("place -5, a five ahead of the ROW", x.deeds(0, -5, 2), 0);
+        Due.is("place least", x.deeds(0, Integer.MIN_VALUE, 10), 0);
+        Due.is("place -1 of nothing", x.deeds(5, -1, 1), 0);
+        Due.is("place -1, n 0", x.deeds(0, -1, 0), -1);
         Due.is("n 0", x.deeds(0, 1, 0), -1);
         Due.is("n 11", x.deeds(0, 1, 11), -1);
         Due.lay(x, 1, 2, 1, 0, 20, 3, 4);
         Due.is("a ROW of ints", x.deeds(1, 0, 1), -12);
+        Due.is("place -1 of a ROW of ints", x.deeds(1, -1, 1), -12);
         x.body(0);
         x.keep(2, 0);
         Due.is("a WORD", x.deeds(2, 0, 1), -12);

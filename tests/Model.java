@@ -345,7 +345,7 @@ final class Model {
     }
 
     int deeds(int shelf, int i, int n) {
-        if (!in(shelf, 0, 5) || i < 0 || !in(n, 1, 10)) {
+        if (!in(shelf, 0, 5) || !in(n, 1, 10)) {
             return BAD;
         }
         if (shelves[shelf] == null) {
@@ -355,7 +355,7 @@ final class Model {
             return -12;
         }
         int came = 0;
-        for (long at = i + 1L; came < n && at + 4 < row.length; at += 5) {
+        for (long at = i + 1L; at > 0 && came < n && at + 4 < row.length; at += 5) {
             int k = (int) at;
             if (row[k] < 0 || row[k] > 3 || row[k + 1] < 0 || row[k + 1] >= deaf.size() || row[k + 2] < 0
                 || row[k + 2] > 999 || row[k + 3] < 0 || row[k + 3] > 4 || row[k + 4] < 1 || row[k + 4] > 9) {
@@ -944,7 +944,6 @@ final class Model {
     }
 
     int put(int shelf, int i, long v) {
-        long refusal = element(shelf, i);
         if (!in(shelf, 0, 5)) {
             return BAD;
         }
@@ -955,7 +954,7 @@ final class Model {
             return -12;
         }
         if (i < 0 || i >= row.length - 1) {
-            return (int) refusal;
+            return -13;
         }
         row[i + 1] = row[0] == 0 ? (byte) v : row[0] == 1 ? (short) v : row[0] == 2 ? (int) v
             : row[0] == 3 ? v : v == 0 ? 0 : 1;
@@ -963,16 +962,10 @@ final class Model {
     }
 
     long element(int shelf, int i) {
-        if (!in(shelf, 0, 5)) {
+        if (!in(shelf, 0, 5) || !(shelves[shelf] instanceof long[] row)) {
             return Long.MIN_VALUE;
         }
-        if (shelves[shelf] == null) {
-            return -11;
-        }
-        if (!(shelves[shelf] instanceof long[] row)) {
-            return -12;
-        }
-        return i < 0 || i >= row.length - 1 ? -13 : row[i + 1];
+        return i < 0 || i >= row.length - 1 ? Long.MIN_VALUE : row[i + 1];
     }
 
     int shift(int shelf, int i, int other, int j, int n) {

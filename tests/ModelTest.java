@@ -294,7 +294,8 @@ public final class ModelTest {
             same(run, "put", x.put(shelf, i + from, v), m.put(shelf, i + from, v), shelf, i + from, v);
         }
         int fives = upTo(5);
-        same(run, "deeds", x.deeds(shelf, from, fives), m.deeds(shelf, from, fives), shelf, from, fives);
+        int start = draw(6) == 0 ? from - 5 : from;
+        same(run, "deeds", x.deeds(shelf, start, fives), m.deeds(shelf, start, fives), shelf, start, fives);
     }
 
     private static void shift(FameAhead x, Model m, int shelf, int i, int run) {

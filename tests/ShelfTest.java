@@ -40,12 +40,12 @@ public final class ShelfTest {
         Due.is("n -1", x.row(0, 0, -1), -14);
         Due.is("n least", x.row(0, 0, Integer.MIN_VALUE), -14);
         Due.is("a bad sort ahead of n -1", x.row(0, 5, -1), -1);
-        Due.is("nothing came", x.element(0, 0), -11);
+        Due.is("nothing came", x.element(0, 0), Long.MIN_VALUE);
         Due.is("n 0", x.row(0, 0, 0), 1);
-        Due.is("no place", x.element(0, 0), -13);
+        Due.is("no place", x.element(0, 0), Long.MIN_VALUE);
         Due.is("n 60", x.row(0, 4, 60), 1);
         Due.is("the last", x.element(0, 59), 0);
-        Due.is("behind the last", x.element(0, 60), -13);
+        Due.is("behind the last", x.element(0, 60), Long.MIN_VALUE);
         x.put(0, 59, 1);
         x.row(0, 3, 60);
         Due.is("0 at first", x.element(0, 59), 0);
@@ -79,14 +79,17 @@ public final class ShelfTest {
         FameAhead x = new FameAhead();
         Due.is("shelf -1", x.element(-1, 0), Long.MIN_VALUE);
         Due.is("shelf 6", x.element(6, 0), Long.MIN_VALUE);
-        Due.is("nothing there", x.element(0, 0), -11);
+        Due.is("nothing there", x.element(0, 0), Long.MIN_VALUE);
         x.body(0);
         x.keep(0, 0);
-        Due.is("a WORD", x.element(0, 0), -12);
+        Due.is("a WORD", x.element(0, 0), Long.MIN_VALUE);
         x.row(0, 3, 3);
         x.put(0, 2, -1);
-        Due.is("place -1", x.element(0, -1), -13);
-        Due.is("place 3", x.element(0, 3), -13);
+        Due.is("place -1", x.element(0, -1), Long.MIN_VALUE);
+        Due.is("place 3", x.element(0, 3), Long.MIN_VALUE);
+        Due.is("place least", x.element(0, Integer.MIN_VALUE), Long.MIN_VALUE);
+        Due.is("place most", x.element(0, Integer.MAX_VALUE), Long.MIN_VALUE);
+        Due.is("a place of a SHELF behind", x.element(0, 60), Long.MIN_VALUE);
         Due.is("an element", x.element(0, 2), -1);
     }
 
@@ -111,7 +114,7 @@ public final class ShelfTest {
         for (int i = 0; i < elements.length; i++) {
             Due.is("element(" + shelf + ", " + i + ")", x.element(shelf, i), elements[i]);
         }
-        Due.is("elements", x.element(shelf, elements.length), -13);
+        Due.is("elements", x.element(shelf, elements.length), Long.MIN_VALUE);
     }
 
     private static void shiftRefusals() {

@@ -49,7 +49,7 @@ public final class FameAhead {
     }
 
     public int deeds(int shelf, int i, int n) {
-        if (!shelves.isShelf(shelf) || i < 0 || n < 1 || n > Ledger.DEEDS) {
+        if (!shelves.isShelf(shelf) || n < 1 || n > Ledger.DEEDS) {
             return BAD;
         }
         if (shelves.isEmpty(shelf)) {
@@ -497,11 +497,7 @@ public final class FameAhead {
     }
 
     public long element(int shelf, int i) {
-        int refusal = refusalOfPlace(shelf, i);
-        if (refusal < 0) {
-            return refusal == BAD ? Long.MIN_VALUE : refusal;
-        }
-        return shelves.get(shelf, i);
+        return refusalOfPlace(shelf, i) < 0 ? Long.MIN_VALUE : shelves.get(shelf, i);
     }
 
     public int shift(int shelf, int i, int other, int j, int n) {
