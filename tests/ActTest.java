@@ -127,9 +127,11 @@ public final class ActTest {
     private static void acts() {
         Word[] words = {new Word(), new Carter(), new Feet(), new Inn(), new Twin(), new Saint(), new Letter(), new Nobody()};
         int[] xs = {0, 1, -1, 7, 1000000, Integer.MAX_VALUE, Integer.MIN_VALUE};
-        FameAhead x = new FameAhead();
         for (int body = 0; body < 24; body++) {
-            x.body(body * 3 % 8);
+            FameAhead x = new FameAhead();
+            for (int i = 0; i <= body; i++) {
+                x.body(i * 3 % 8);
+            }
             Word word = words[body * 3 % 8];
             word.number = body;
             for (int act = 0; act < 4; act++) {

@@ -1,9 +1,10 @@
 import java.util.ArrayList;
 import java.util.List;
 
-/** Long runs of calls drawn by a fixed seed, each answer held against the Model's. */
+/** Runs of calls drawn by a fixed seed, as long as the document lets an object be used, held against the Model. */
 public final class ModelTest {
-    private static final int RUNS = 400, CALLS = 512;
+    /** An object is used for at most 512 calls; a step makes at most MARGIN of them. */
+    private static final int RUNS = 2500, CALLS = 512, MARGIN = 160, MEND = 4;
     private static final int[] EXTREMES = {Integer.MIN_VALUE, Integer.MIN_VALUE + 1, -1000000, -1001, -1000, -101, -100,
         -11, -10, -3, -2, -1, 0, 1, 10, 11, 50, 60, 61, 99, 100, 255, 256, 999, 1000, 1001, 7999, 8000, 1000000,
         2147482999, Integer.MAX_VALUE - 5, Integer.MAX_VALUE - 1, Integer.MAX_VALUE};
@@ -13,6 +14,8 @@ public final class ModelTest {
     private static final String LETTERS = "0123456789wadmtp()!-+*/%<=>&|?;wadm((!-x ";
 
     private static long z = 20261119;
+    /** How many calls the object of this run has had. */
+    private static int calls = 0;
 
     private static int draw(int n) {
         z = z * 6364136223846793005L + 1442695040888963407L;
@@ -59,23 +62,25 @@ public final class ModelTest {
             Model m = new Model();
             int wanted = draw(8) + 1;
             int late = draw(3);
-            for (int call = 0; call < CALLS; call++) {
-                if (call < wanted + 14 && call != late) {
-                    found(x, m, call, wanted, run);
+            calls = 0;
+            for (int step = 0; calls + MARGIN <= CALLS; step++) {
+                if (step < wanted + 14 && step != late) {
+                    found(x, m, step, wanted, run);
                 } else {
-                    int which = draw(60);
-                    step(x, m, which, run);
+                    // In each eighth run mostly mends, so that CHANGES are more than are kept.
+                    step(x, m, run % 8 == 0 && draw(4) != 0 ? MEND : draw(60), run);
                 }
             }
+            Due.is("run " + run + " used its object for too many calls", calls > CALLS ? 1 : 0, 0);
         }
         Due.close();
     }
 
-    private static void found(FameAhead x, Model m, int call, int wanted, int run) {
-        if (call <= wanted) {
+    private static void found(FameAhead x, Model m, int step, int wanted, int run) {
+        if (step <= wanted) {
             int v = draw(10);
             same(run, "town", x.town(v), m.town(v), v);
-        } else if (call % 3 != 0) {
+        } else if (step % 3 != 0) {
             int ab = town(m) * 10 + town(m);
             int length = upTo(24);
             same(run, "road", x.road(ab, length), m.road(ab, length), ab, length);
@@ -85,6 +90,7 @@ public final class ModelTest {
     }
 
     private static void same(int run, String call, long got, long want, long... with) {
+        calls++;
         if (got != want) {
             Due.is("run " + run + ": " + call + java.util.Arrays.toString(with), got, want);
         }
@@ -124,6 +130,9 @@ public final class ModelTest {
             case 15:
             case 16: same(run, "undo", x.undo(), m.undo()); break;
             default: same(run, "redo", x.redo(), m.redo()); break;
+        }
+        if (draw(6) != 0) {
+            return;
         }
         for (int what = -1; what <= 7; what++) {
             same(run, "led", x.led(what), m.led(what), what);
@@ -169,6 +178,7 @@ public final class ModelTest {
         if (draw(10) == 0) {
             same(run, "feed", x.feed(bad), m.feed(bad), bad);
         }
+        calls++;
         long got = x.law();
         long want = m.law();
         if (got != want) {
@@ -227,6 +237,7 @@ public final class ModelTest {
         int shelf = upTo(5);
         if (draw(5) != 0 && shelf >= 0 && shelf <= 5 && m.one(one) && m.th(th)) {
             int n = draw(7);
+            calls += n + 1;
             x.row(shelf, 0, n);
             m.row(shelf, 0, n);
             for (int mark = 0; mark < n; mark++) {
@@ -302,6 +313,7 @@ public final class ModelTest {
         int other = draw(3) == 0 ? shelf : upTo(5);
         if (draw(2) == 0 && other >= 0 && other < 6 && shelf >= 0 && shelf < 6 && other != shelf) {
             int sort = draw(5);
+            calls += 14;
             x.row(other, sort, 9);
             m.row(other, sort, 9);
             x.row(shelf, sort, 12);
